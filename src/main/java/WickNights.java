@@ -958,19 +958,21 @@ public final class WickNights {
 
         private void readSum(Tape tape, int open) {
             readProduct(tape, open);
-            for (int sign = tape.next(); sign == '+' || sign == '-'; sign = tape.next()) {
-                tape.takeSign(sign);
+            for (int i = 0; i < LAW_BYTES && (tape.next() == '+' || tape.next() == '-'); i++) {
+                int code = tape.next() == '+' ? PLUS : MINUS;
+                tape.takeSign(tape.next());
                 readProduct(tape, open);
-                append(sign == '+' ? PLUS : MINUS);
+                append(code);
             }
         }
 
         private void readProduct(Tape tape, int open) {
             readUnit(tape, open);
-            for (int sign = tape.next(); sign == '*' || sign == '/'; sign = tape.next()) {
-                tape.takeSign(sign);
+            for (int i = 0; i < LAW_BYTES && (tape.next() == '*' || tape.next() == '/'); i++) {
+                int code = tape.next() == '*' ? TIMES : BY;
+                tape.takeSign(tape.next());
                 readUnit(tape, open);
-                append(sign == '*' ? TIMES : BY);
+                append(code);
             }
         }
 
