@@ -133,7 +133,7 @@ public final class WickNights {
             return answer;
         }
         past.push(shore.state);
-        program.run(shore);
+        program.runSteps(shore, 0, program.steps.rows, 0);
         stepsRefused = program.refused;
         return program.done;
     }
@@ -706,17 +706,9 @@ public final class WickNights {
             }
         }
 
-        private boolean isNumberNext() {
-            return isWithin(next(), '0', '9');
-        }
-
-        private boolean isWordNext() {
-            return isWithin(next(), 'a', 'z');
-        }
-
         /** The number that stands next; a fault, if there is none or it is not least to most. */
         private int takeNumber(int least, int most) {
-            if (!isNumberNext()) {
+            if (!isWithin(next(), '0', '9')) {
                 refuse(CANNOT_STAND, at);
                 return 0;
             }
@@ -734,7 +726,7 @@ public final class WickNights {
 
         /** Goes over the word that stands next, which isWord compares; none is a fault. */
         private void takeWord() {
-            if (!isWordNext()) {
+            if (!isWithin(next(), 'a', 'z')) {
                 refuse(CANNOT_STAND, at);
             }
             wordFrom = at;
@@ -977,11 +969,12 @@ public final class WickNights {
         }
 
         private void readUnit(Tape tape, int open) {
-            if (tape.isNumberNext()) {
+            int sign = tape.next();
+            if (isWithin(sign, '0', '9')) {
                 append(tape.takeNumber(0, INPUT - 1));
-            } else if (tape.isWordNext()) {
+            } else if (isWithin(sign, 'a', 'z')) {
                 readWord(tape, open);
-            } else if (tape.next() == '(') {
+            } else if (sign == '(') {
                 readBracket(tape, open);
             } else {
                 tape.refuse(CANNOT_STAND, tape.at);
@@ -1491,6 +1484,9 @@ public final class WickNights {
 
         private void read(Tape tape, Coast coast) {
             steps.clear();
+            begun = 0;
+            done = 0;
+            refused = 0;
             readSteps(tape, coast, 0);
             if (tape.next() != NONE) {
                 tape.refuse(CANNOT_STAND, tape.at);
@@ -1558,13 +1554,6 @@ public final class WickNights {
             readSteps(tape, coast, open + 1);
             tape.takeSign(']');
             steps.put(row, TWO, steps.rows);
-        }
-
-        private void run(Shore shore) {
-            begun = 0;
-            done = 0;
-            refused = 0;
-            runSteps(shore, 0, steps.rows, 0);
         }
 
         private void runSteps(Shore shore, int from, int end, int open) {

@@ -345,7 +345,7 @@ public final class AsksTest {
         Checks.due("all wants, open or not", x.nights(0, 10), 2);
         WickNights none = Checks.on("place 0 0 0 0;");
         Checks.due("no wants", none.nights(0, 1), 0);
-        // First come, first put would take three: 4+3+3 and 4+3+3 are two.
+        // The first three fill one night, the others the second.
         WickNights tight = Checks.on("place 0 0 0 0;want 0 3 0 1;want 0 3 0 1;want 0 4 0 1;want 0 3 0 1;"
             + "want 0 4 0 1;want 0 3 0 1;");
         Checks.due("two nights of ten", tight.nights(0, 10), 2);
@@ -353,14 +353,14 @@ public final class AsksTest {
         for (int want = 0; want < on.length; want++) {
             Checks.due("night of " + want, tight.night(want, 10), on[want]);
         }
-        // 5 with 5 would be first, but then 6, 6, 4, 4 still fit: 6+4, 6+4.
+        // 4, 4 and 2 go on the first night, 6 and 4 on the second.
         WickNights pairs = Checks.on("place 0 0 0 0;want 0 4 0 1;want 0 4 0 1;want 0 6 0 1;want 0 2 0 1;want 0 4 0 1;");
         Checks.due("two nights of ten", pairs.nights(0, 10), 2);
         int[] then = {0, 0, 1, 0, 1};
         for (int want = 0; want < then.length; want++) {
             Checks.due("night of " + want, pairs.night(want, 10), then[want]);
         }
-        // The first two can't be together: 6 goes with 4 alone, 7 with 3.
+        // 4 could be with 3, but then a third night would be needed: 6 goes with 4 alone, 7 with 3.
         WickNights apart = Checks.on("place 0 0 0 0;want 0 3 0 1;want 0 4 0 1;want 0 6 0 1;want 0 7 0 1;");
         Checks.due("two nights of ten", apart.nights(0, 10), 2);
         Checks.due("3", apart.night(0, 10), 0);
