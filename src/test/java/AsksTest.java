@@ -224,6 +224,8 @@ public final class AsksTest {
         Checks.law(x, 0, "hours/4");
         Checks.due("four for one", x.brings(0, 1, 0), 4);
         Checks.due("worth", x.brings(0, 1, 1), 62);
+        Checks.law(x, 0, "hours*good/2");
+        Checks.due("good ones are carried", x.brings(0, 1, 0), 2);
         Checks.law(x, 0, "0");
         Checks.due("nothing arrives", x.brings(0, 1, 0), 0);
         Checks.due("worth", x.brings(0, 1, 1), 32);
