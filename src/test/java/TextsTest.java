@@ -298,6 +298,8 @@ public final class TextsTest {
         Checks.due("-16, made good", lawValue("30 + 512*512*512*16/(0-1)/(512*512*512)"), 14);
         Checks.due("six open", lawValue("((((((3))))))+((((((4))))))"), 7);
         Checks.due("deep", lawValue("1+1*most[2+2*1,3+3*(4+4*least[5+5*5,6+6*(7+7*(8+8*9))])]"), 1 + deep());
+        // As many numbers wait for their sign as can: three for each of six brackets, and two within.
+        Checks.due("deepest", lawValue(Checks.times(6, "1+1*least[9,") + "1+1*1" + Checks.times(6, "]")), 8);
         lawOfDigging();
         lawOfMonths();
     }
