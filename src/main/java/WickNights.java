@@ -613,6 +613,15 @@ public final class WickNights {
             return (rows + 1) * wide > cells.length;
         }
 
+        /** The number of one more row; NONE if there is no room. */
+        private int newRow() {
+            if (isFull()) {
+                return NONE;
+            }
+            rows++;
+            return rows - 1;
+        }
+
         private int at(int row, int column) {
             int cell = row * wide + column;
             return cell >= 0 && cell < cells.length ? cells[cell] : 0;
@@ -795,7 +804,7 @@ public final class WickNights {
         }
 
         private void readPlace(Tape tape, boolean tooMany) {
-            int row = newRow(tape, places, tooMany);
+            int row = beginRow(tape, places, tooMany);
             places.put(row, X, tape.takeNumber(0, 40));
             places.put(row, FIRST_GOOD, tape.takeNumber(0, 99));
             places.put(row, FIRST_WATERED, tape.takeNumber(0, 99));
@@ -803,7 +812,7 @@ public final class WickNights {
         }
 
         private void readWant(Tape tape, boolean tooMany) {
-            int row = newRow(tape, wants, tooMany);
+            int row = beginRow(tape, wants, tooMany);
             wants.put(row, WHERE, tape.takeNumber(0, places.rows - 1));
             wants.put(row, LONG, tape.takeNumber(1, 12));
             wants.put(row, GOOD_ALONE, tape.takeNumber(0, 1));
@@ -811,14 +820,14 @@ public final class WickNights {
         }
 
         private void readMine(Tape tape, boolean tooMany) {
-            int row = newRow(tape, mines, tooMany);
+            int row = beginRow(tape, mines, tooMany);
             mines.put(row, WHERE, tape.takeNumber(0, places.rows - 1));
             mines.put(row, FIRST_LEFT, tape.takeNumber(0, 400));
             mines.put(row, OPENS, tape.takeNumber(0, MONTHS_OF_YEAR - 1));
         }
 
         private void readMoon(Tape tape, boolean tooMany) {
-            int row = newRow(tape, moonRows, tooMany);
+            int row = beginRow(tape, moonRows, tooMany);
             int cycle = tape.takeNumber(1, 30);
             moonRows.put(row, CYCLE, cycle);
             moonRows.put(row, REST, tape.takeNumber(0, cycle - 1));
@@ -831,13 +840,11 @@ public final class WickNights {
             return tape.takeNumber(0, most);
         }
 
-        private static int newRow(Tape tape, Table table, boolean tooMany) {
+        private static int beginRow(Tape tape, Table table, boolean tooMany) {
             if (tooMany || table.isFull()) {
                 tape.refuse(TOO_MANY, tape.wordFrom);
-                return NONE;
             }
-            table.rows++;
-            return table.rows - 1;
+            return table.newRow();
         }
 
         private void copyFrom(Coast other) {
@@ -1334,7 +1341,9 @@ public final class WickNights {
             return state.wants.at(want, OPEN) == 1 && coast.wants.at(want, LONG) <= there;
         }
 
-        private boolean isCarried(int from, int to, int n, int kind) {
+        // The steps: each tells whether it was done, and changes nothing if it was not.
+
+        private boolean carryHours(int from, int to, int n, int kind) {
             if (state.hours.at(from, kind) < n) {
                 return false;
             }
@@ -1343,7 +1352,7 @@ public final class WickNights {
             return true;
         }
 
-        private boolean isSold(int want) {
+        private boolean sellWant(int want) {
             if (!isSaleable(want)) {
                 return false;
             }
@@ -1359,7 +1368,7 @@ public final class WickNights {
             return true;
         }
 
-        private boolean isWatered(int place, int n) {
+        private boolean waterHours(int place, int n) {
             if (state.hours.at(place, GOOD) < n) {
                 return false;
             }
@@ -1368,7 +1377,7 @@ public final class WickNights {
             return true;
         }
 
-        private boolean isDug(int mine, int shafts) {
+        private boolean digShafts(int mine, int shafts) {
             int left = state.seams.at(mine, LEFT);
             if (!isMineOpen(mine, state.month) || left == 0) {
                 return false;
@@ -1504,8 +1513,7 @@ public final class WickNights {
         }
 
         private void readStep(Tape tape, Coast coast, int open) {
-            int row = steps.isFull() ? NONE : steps.rows;
-            steps.rows += row == NONE ? 0 : 1;
+            int row = steps.newRow();
             if (tape.isWord("carry")) {
                 readCarry(tape, coast, row);
             } else if (tape.isWord("sell")) {
@@ -1567,7 +1575,7 @@ public final class WickNights {
                     }
                     row = behind;
                 } else {
-                    keepAnswer(isStepDone(shore, row));
+                    keepAnswer(doStep(shore, row));
                     row++;
                 }
             }
@@ -1581,18 +1589,18 @@ public final class WickNights {
             }
         }
 
-        private boolean isStepDone(Shore shore, int row) {
+        private boolean doStep(Shore shore, int row) {
             int one = steps.at(row, ONE);
             int two = steps.at(row, TWO);
             switch (steps.at(row, STEP)) {
                 case CARRY:
-                    return shore.isCarried(one, two, steps.at(row, THREE), steps.at(row, FOUR));
+                    return shore.carryHours(one, two, steps.at(row, THREE), steps.at(row, FOUR));
                 case SELL:
-                    return shore.isSold(one);
+                    return shore.sellWant(one);
                 case WATER:
-                    return shore.isWatered(one, two);
+                    return shore.waterHours(one, two);
                 case DIG:
-                    return shore.isDug(one, two);
+                    return shore.digShafts(one, two);
                 default:
                     shore.passMonth();
                     return true;
