@@ -23,6 +23,13 @@ final class Checks {
         due(what, got ? 1 : 0, want ? 1 : 0);
     }
 
+    static void dueText(String what, String got, String want) {
+        if (!got.equals(want)) {
+            wrong++;
+            System.out.println(what + " answered " + got + ", due is " + want);
+        }
+    }
+
     /** Looks at the class itself: a subclass of the one that is due would be another answer. */
     static void dueThrow(String what, Runnable call, Class<? extends RuntimeException> want) {
         Class<?> got = null;
