@@ -353,7 +353,6 @@ public final class WickNights {
 
     public int looks(int n, int m, int what) throws IllegalArgumentException {
         need(isWithin(n, 1, NIGHTS_ASKED_MOST) && isWithin(m, 1, NIGHTS_ASKED_MOST) && isWithin(what, 0, 1));
-        Arrays.fill(lookRow, 0);
         int first = 0;
         for (int many = 2; many <= n; many++) {
             first = firstLook(many, m);
@@ -577,7 +576,7 @@ public final class WickNights {
         return part == 0 ? above : below;
     }
 
-    // ---- looks: lookRow holds the fewest looks for each number of nights ----
+    // ---- looks: lookRow holds the fewest looks for each number of nights; for none or one it is never written ----
 
     private int firstLook(int many, int m) {
         int best = 1;

@@ -309,6 +309,14 @@ public final class EdgesOfAsksTest {
             mine 0 1 = 0
             mine 0 3 = 1
             mine 0 4 = 4
+            on "place 0 0 0 0;mine 0 40 0;mine 0 50 0;mine 0 60 0;"
+            work "dig 0 1;dig 1 2;dig 2 3;" = 3
+            mine 0 1 = 37
+            mine 0 4 = 3
+            mine 1 1 = 44
+            mine 1 4 = 6
+            mine 2 1 = 51
+            mine 2 4 = 9
             """);
     }
 
@@ -393,6 +401,14 @@ public final class EdgesOfAsksTest {
             on "place 0 95 0 0;"+"want 0 8 1 99;"*12
             sales 0 = 1089
             sales 1 = 2047
+            on "place 0 99 0 44;leaks 0;"+"want 0 12 1 99;"*12
+            work "month;" = 1
+            place 0 1 = 143
+            sales 0 = 1089
+            on "place 0 99 0 45;leaks 0;"+"want 0 12 1 99;"*12
+            work "month;" = 1
+            sales 0 = 1188
+            sales 1 = 4095
             """);
         Edges.edge("(each PLACE by itself: those of good ones alone, and the others, by what is there)", """
             on "place 0 0 0 0;place 0 99 99 0;want 0 1 0 9;"
@@ -480,6 +496,10 @@ public final class EdgesOfAsksTest {
             law 0 "10-hours" = 1
             brings 0 1 0 = 5
             brings 0 1 1 = 8
+            law 0 "hours*2/(good+1)" = 1
+            brings 0 1 0 = 5
+            law 0 "hours*good/2+1" = 1
+            brings 0 1 0 = 8
             place 0 1 = 9
             place 1 1 = 0
             """);
@@ -540,6 +560,9 @@ public final class EdgesOfAsksTest {
             corner 0 22 = 6
             corner 0 41 = 6
             on "place 0 0 0 0;want 0 1 0 99;"
+            corner 0 100 = 0
+            on "place 0 0 0 0;want 0 12 0 99;want 0 12 0 50;"
+            corner 0 1 = 0
             corner 0 100 = 0
             on "place 0 3 0 0;want 0 3 0 99;"
             corner 0 100 = 1

@@ -118,6 +118,7 @@ public final class EdgesOfObjectsTest {
             law 1 "7" = 1
             book "0 2;" = 1
             work "month;sell 0;sell 0;dig 0 1;" = 3
+            place 0 4 = 1
             image = 1
             image = 2
             coast "place 0 9 0 0;place 20 0 0 0;want 0 1 0 5;mine 0 9 0;" = 2
@@ -132,6 +133,7 @@ public final class EdgesOfObjectsTest {
             count 2 = 0
             undo = -1
             restore = -1
+            place 0 4 = 0
             want 0 4 = 1
             want 0 5 = 0
             mine 0 1 = 9

@@ -120,6 +120,8 @@ public final class EdgesOfPuzzlesTest {
             now 11 2 2 8 10 1 = no
             now 999 0 99 0 0 6 = yes
             now 0 0 99 0 0 6 = no
+            now 9 10 10 4 5 1 = yes
+            now 9 10 10 4 5 2 = no
             now -1 1 1 1 1 1 = wrong
             now 1000 1 1 1 1 1 = wrong
             now 1 -1 1 1 1 1 = wrong
@@ -151,6 +153,8 @@ public final class EdgesOfPuzzlesTest {
             nights 2 24 = 0
             work "sell 0;" = 1
             nights 0 3 = 3
+            on "place 0 0 0 0;"
+            nights 0 1 = 0
             """);
         Edges.edge("NIGHTS of n hours (1 to 24) for a PLACE.", """
             on "place 0 0 0 0;"+"want 0 1 0 1;"*12
@@ -183,6 +187,20 @@ public final class EdgesOfPuzzlesTest {
             night 1 13 = 0
             night 2 13 = 0
             night 3 13 = 1
+            on "place 0 0 0 0;"+"want 0 1 0 1;"*3+"want 0 2 0 1;"*3
+            nights 0 3 = 3
+            night 0 3 = 0
+            night 1 3 = 1
+            night 2 3 = 2
+            night 3 3 = 0
+            night 4 3 = 1
+            night 5 3 = 2
+            on "place 0 0 0 0;want 0 3 0 1;want 0 5 0 1;want 0 8 0 1;want 0 7 0 1;want 0 4 0 1;"
+            nights 0 14 = 2
+            night 1 14 = 1
+            night 2 14 = 1
+            night 3 14 = 0
+            night 4 14 = 0
             """);
         Edges.edge("On which night (from 0 on) a WANT is then; NONE: there is no way.", """
             on "place 0 9 0 0;place 0 0 0 0;want 0 5 0 1;want 1 6 0 1;want 0 3 0 1;want 0 2 0 1;"
@@ -290,6 +308,14 @@ public final class EdgesOfPuzzlesTest {
             leaky 3 = 0
             book "0 99;1 0;" = 2
             leaky 0 = 0
+            book "0 0;" = 1
+            leaky 0 = 2
+            leaky 2 = 0
+            leaky 3 = 3
+            book "0 0;2 2;" = 2
+            leaky 1 = 4
+            leaky 2 = 4
+            leaky 3 = 3
             """);
     }
 

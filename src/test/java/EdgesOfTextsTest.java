@@ -278,6 +278,8 @@ public final class EdgesOfTextsTest {
             on "place 0 0 0 0;place 7 0 0 0;"
             law 0 " "*149+"7" = 1
             arrives 0 1 99 1 = 7
+            law 0 "2+"*74+"2 " = 1
+            arrives 0 1 999 1 = 150
             law 0 "1+"*74+"1 " = 1
             arrives 0 1 99 1 = 75
             law 0 " "*150 = -9
@@ -711,6 +713,10 @@ public final class EdgesOfTextsTest {
             coast "place 0 0 0 0;Want 0 1 0 0;" = -9
             fault = 14
             coast "plac 0 0 0 0;" = -9
+            fault = 0
+            coast "glace 0 0 0 0;" = -9
+            fault = 0
+            coast "plaza 0 0 0 0;" = -9
             fault = 0
             coast "place 0 0 0 0;"+"a"*500 = -9
             fault = 14

@@ -332,6 +332,18 @@ public final class EdgesOfWorkTest {
             work "carry 0 1 99 0;carry 1 0 98 0;carry 1 0 1 0;water 0 1;" = 4
             place 0 2 = 999
             place 0 4 = 0
+            on "place 0 99 0 99;place 0 0 0 0;leaks 0;want 0 12 1 9;want 1 12 1 8;"
+            work "again 10[month;];" = 10
+            place 0 1 = 999
+            ahead 0 1 0 = 999
+            sales 0 = 9
+            more 0 99 = 9
+            more 1 12 = 17
+            brings 0 1 0 = 12
+            brings 0 1 1 = 17
+            price 0 = 0
+            corner 0 10 = 988
+            arrives 0 1 999 1 = 999
             """);
     }
 

@@ -11,7 +11,7 @@ import java.util.Random;
  * thrown: the machine itself may throw none in the class.
  */
 public final class ModelTest {
-    private static final int RUNS = 220;
+    private static final int RUNS = 1000;
     private static final int CALLS = 500;
 
     private final Random chance;
